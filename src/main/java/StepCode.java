@@ -611,20 +611,20 @@ public final class StepCode {
         }
 
         int make(int kind, int given, int n) {
-            int v = nodes.begin(kind, given);
             int from = rootCount - n;
-            if (v < 0 || v >= height.length || from < 0 || rootCount > roots.length) {
+            if (n < 0 || from < 0 || rootCount > roots.length || nodes.isFull()) {
                 return NONE;
             }
+            int v = nodes.begin(kind, given);
             int below = 0;
             for (int i = from; i < rootCount; i++) {
                 nodes.take(roots[i]);
                 below = Math.max(below, heightOf(roots[i]));
             }
-            height[v] = below + 1;
             rootCount = from;
-            if (rootCount < roots.length) {
-                roots[rootCount] = v;
+            if (v >= 0 && v < height.length && from < roots.length) {
+                height[v] = below + 1;
+                roots[from] = v;
                 rootCount++;
             }
             return v;
@@ -688,7 +688,7 @@ public final class StepCode {
                 case K_LOGIC:
                     return kids == 0 && isWithin(given, U, FREE);
                 case K_ROW:
-                    return given == 0 && isWithin(kids, 1, MOST_ELEMENTS) && areLogics(v);
+                    return given == 0 && isWithin(kids, 1, MOST_ELEMENTS) && areKids(v, 0, K_LOGIC);
                 case K_SIGNAL:
                 case K_VARIABLE:
                     return kids == 0 && thingOf(v) != null;
@@ -822,10 +822,6 @@ public final class StepCode {
                 }
             }
             return nodes.kindOf(v) == K_LIST && nodes.kidsOf(v) >= 1;
-        }
-
-        private boolean areLogics(int v) {
-            return areKids(v, 0, K_LOGIC);
         }
 
         private boolean areKids(int v, int from, int kind) {

@@ -9,6 +9,7 @@ public final class ExpressionsTest {
         truths();
         numbers();
         sameness();
+        samenessOfObjects();
         order();
         rowSums();
         joined();
@@ -115,6 +116,8 @@ public final class ExpressionsTest {
             one(0, "'" + Kit.CODES.charAt(a) + "'", "'" + not.charAt(a) + "'");
         }
         one(0, "[" + Kit.CODES + "]", "[" + not + "]");
+        one(0, "[" + "U".repeat(40) + "]", "[" + "U".repeat(40) + "]");
+        two(1, "[" + "U".repeat(45) + "]", "[" + "0".repeat(45) + "]", "[" + "U".repeat(45) + "]");
         String wide = "01LHUX-Z".repeat(8);
         one(0, "[" + wide + "]", "[" + "1010UXXX".repeat(8) + "]");
         two(0, "[" + wide + "]", "[" + "1".repeat(64) + "]", "[" + "0101UXXX".repeat(8) + "]");
@@ -209,6 +212,27 @@ public final class ExpressionsTest {
             two(op, "1", "'1'", "fault 3");
             two(op, "[1]", "1", "fault 3");
         }
+    }
+
+    /** A value is the same whether it was there at first, was put, was set or was found. */
+    private static void samenessOfObjects() {
+        StepCode x = new StepCode();
+        x.signal(2, 3, 9);
+        x.signal(1, 2, 0);
+        x.variable(2, 3, 9);
+        x.variable(1, 2, 0);
+        Kit.make(x, Kit.report(Kit.two(6, Kit.var(0), Kit.num(3))), Kit.report(Kit.two(6, Kit.sig(0), Kit.var(0))),
+                Kit.report(Kit.two(6, Kit.var(1), Kit.row("UU"))), Kit.report(Kit.two(6, Kit.sig(1), Kit.var(1))),
+                Kit.pause(), Kit.let(Kit.var(0), Kit.num(7)), Kit.let(Kit.var(1), Kit.row("H1")),
+                Kit.report(Kit.two(6, Kit.var(0), Kit.sig(0))), Kit.report(Kit.two(6, Kit.sig(1), Kit.var(1))),
+                Kit.report(Kit.two(6, Kit.two(12, Kit.num(3), Kit.num(4)), Kit.sig(0))), Kit.pause());
+        x.resume(0, 99);
+        kit.same("the same at first", Kit.reports(x), "1 1 1 1");
+        x.put(0, false, 0, 7);
+        x.put(1, false, 0, 3);
+        x.put(1, false, 1, 7);
+        x.resume(0, 99);
+        kit.same("the same later", Kit.reports(x), "1 1 1");
     }
 
     private static void order() {
@@ -363,13 +387,14 @@ public final class ExpressionsTest {
             for (int last = 0; last < 9; last++) {
                 StepCode x = new StepCode();
                 x.signal(0, 0, 0);
-                Kit.make(x, Kit.report(Kit.t(84, 8, Kit.sig(0))), Kit.report(Kit.t(84, 9, Kit.sig(0))), Kit.pause());
-                x.put(0, false, 0, now);
-                x.put(0, true, 0, last);
-                x.mark(0, false, true);
+                x.signal(0, 0, 0);
+                Kit.make(x, Kit.report(Kit.t(84, 8, Kit.sig(1))), Kit.report(Kit.t(84, 9, Kit.sig(1))), Kit.pause());
+                x.put(1, false, 0, now);
+                x.put(1, true, 0, last);
+                x.mark(1, false, true);
                 x.resume(0, 9);
                 kit.same("no event", Kit.reports(x), "0 0");
-                x.mark(0, true, false);
+                x.mark(1, true, false);
                 x.resume(0, 9);
                 boolean rising = (now == 3 || now == 7) && (last == 2 || last == 6);
                 boolean falling = (now == 2 || now == 6) && (last == 3 || last == 7);

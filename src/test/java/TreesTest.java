@@ -137,6 +137,8 @@ public final class TreesTest {
         wrong("a ROW of none", Kit.t(4, 0));
         wrong("a ROW with a value", Kit.t(4, 1, Kit.t(3, 1)));
         wrong("a ROW of a NUMBER", Kit.t(4, 0, Kit.t(3, 1), Kit.num(1)));
+        wrong("a ROW of a NUMBER first", Kit.t(4, 0, Kit.num(1), Kit.t(3, 1)));
+        wrong("a ROW of a NUMBER alone", Kit.t(4, 0, Kit.num(1)));
         wrong("a ROW of 65", Kit.row("0".repeat(65)));
         rightExpression("a ROW of 64", Kit.row("0".repeat(64)));
         rightExpression("a ROW of 1", Kit.row("-"));
