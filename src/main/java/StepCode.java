@@ -1111,8 +1111,8 @@ public final class StepCode {
 
         Finder(Things signals) {
             this.signals = signals;
-            // A node has at most one operand waiting for each node above it, and a ROW its elements besides.
-            stack = new Datum[MOST_BELOW + MOST_ELEMENTS + 4];
+            // At most one operand waits for each node above, and a part's numbers besides.
+            stack = new Datum[MOST_BELOW + 4];
             for (int i = 0; i < stack.length; i++) {
                 stack[i] = new Datum();
             }
@@ -1126,11 +1126,11 @@ public final class StepCode {
             return stack[0].is == NUMBER;
         }
 
-        /** False when there is a fault, which ends the process. A TIME is found likewise, as a number of its least unit; NOTHING is 0. */
+        /** False when there is a fault, which ends the process. A TIME is found as a number too, and NOTHING is 0. */
         boolean find(Unit unit, int v) {
             Nodes nodes = unit.nodes;
             top = 0;
-            for (int i = nodes.startOf(v); i <= v; i++) {
+            for (int i = nodes.startOf(v); i <= v && i < nodes.count; i++) {
                 int given = nodes.givenOf(i);
                 int wrong = 0;
                 switch (nodes.kindOf(i)) {
@@ -1141,10 +1141,13 @@ public final class StepCode {
                         push().beNumber(given);
                         break;
                     case K_LOGIC:
-                        push().beLogic(given);
+                        // A ROW gathers its elements itself.
+                        if (nodes.kindOf(nodes.parentOf(i)) != K_ROW) {
+                            push().beLogic(given);
+                        }
                         break;
                     case K_ROW:
-                        gather(nodes.kidsOf(i));
+                        gather(nodes, i);
                         break;
                     case K_SIGNAL:
                         pushNow(signals.pick(given));
@@ -1193,7 +1196,9 @@ public final class StepCode {
 
         private void pushNow(Thing thing) {
             Datum datum = push();
-            if (thing != null) {
+            if (thing == null) {
+                datum.beNumber(0);
+            } else {
                 datum.copy(thing.now);
             }
         }
@@ -1207,20 +1212,20 @@ public final class StepCode {
             top = Math.max(top - many, 1);
         }
 
-        private void gather(int many) {
+        private void gather(Nodes nodes, int v) {
+            int many = nodes.kidsOf(v);
             long b0 = 0;
             long b1 = 0;
             long b2 = 0;
             long b3 = 0;
-            for (int below = many - 1; below >= 0; below--) {
-                Datum element = down(below);
-                b0 = b0 << 1 | element.bit0;
-                b1 = b1 << 1 | element.bit1;
-                b2 = b2 << 1 | element.bit2;
-                b3 = b3 << 1 | element.bit3;
+            for (int i = 0; i < many; i++) {
+                int code = nodes.givenOf(nodes.kid(v, i));
+                b0 = b0 << 1 | code & 1;
+                b1 = b1 << 1 | code >> 1 & 1;
+                b2 = b2 << 1 | code >> 2 & 1;
+                b3 = b3 << 1 | code >> 3 & 1;
             }
-            drop(many - 1);
-            down(0).hold(ROW, many, b0, b1, b2, b3);
+            push().hold(ROW, many, b0, b1, b2, b3);
         }
 
         private int element() {
