@@ -227,6 +227,7 @@ public final class TreesTest {
         wrong("84 10 of OTHERS", Kit.t(84, 10, Kit.others()));
         wrong("84 11 of 0", Kit.t(84, 11, Kit.num(1), Kit.num(0)));
         wrong("84 11 of 65", Kit.t(84, 11, Kit.num(1), Kit.num(65)));
+        wrong("84 11 of NOTHING", Kit.t(84, 11, Kit.nothing(), Kit.num(4)));
         wrong("84 11 of one", Kit.t(84, 11, Kit.num(1)));
         wrong("84 11 of a variable", Kit.t(84, 11, Kit.num(1), Kit.var(2)));
         rightExpression("84 11 of 64", Kit.t(84, 11, Kit.sig(0), Kit.num(64)));
@@ -288,6 +289,7 @@ public final class TreesTest {
         wrong("REPORT NOTHING", Kit.report(Kit.nothing()));
         wrong("ASSERT of one", Kit.t(47, 0, Kit.num(1)));
         wrong("ASSERT with a value", Kit.t(47, 2, Kit.num(1), Kit.num(1)));
+        wrong("ASSERT of NOTHING", Kit.check(Kit.nothing(), Kit.num(1)));
         wrong("ASSERT NOTHING", Kit.check(Kit.num(1), Kit.nothing()));
         wrong("WAIT with a value", Kit.t(44, 1, Kit.list(), Kit.nothing(), Kit.nothing()));
         wrong("WAIT of two", Kit.t(44, 0, Kit.list(), Kit.nothing()));
@@ -318,6 +320,7 @@ public final class TreesTest {
         wrong("CASE without a choice", Kit.cases(e.get()));
         wrong("CASE of NOTHING", Kit.cases(Kit.nothing(), Kit.choice(Kit.list(Kit.others()))));
         wrong("CASE of others", Kit.cases(e.get(), Kit.choice(Kit.list(Kit.others())), Kit.skip()));
+        wrong("CASE of others first", Kit.cases(e.get(), Kit.skip(), Kit.choice(Kit.list(Kit.others()))));
         wrong("CASE with a value", Kit.t(35, 1, e.get(), Kit.choice(Kit.list(Kit.others()))));
         wrong("36 of an empty LIST", Kit.choice(Kit.list()));
         wrong("36 of a variable", Kit.choice(Kit.list(Kit.var(2))));
@@ -340,7 +343,8 @@ public final class TreesTest {
             wrong("FOR of a signal " + kind, Kit.t(kind, 0, Kit.sig(2), e.get(), e.get(), Kit.list()));
             wrong("FOR with a value " + kind, Kit.t(kind, 1, Kit.var(2), e.get(), e.get(), Kit.list()));
             wrong("FOR of three " + kind, Kit.t(kind, 0, Kit.var(2), e.get(), Kit.list()));
-            wrong("FOR of NOTHING " + kind, Kit.t(kind, 0, Kit.var(2), e.get(), Kit.nothing(), Kit.list()));
+            wrong("FOR from NOTHING " + kind, Kit.t(kind, 0, Kit.var(2), Kit.nothing(), e.get(), Kit.list()));
+            wrong("FOR to NOTHING " + kind, Kit.t(kind, 0, Kit.var(2), e.get(), Kit.nothing(), Kit.list()));
             wrong("FOR without statements " + kind, Kit.t(kind, 0, Kit.var(2), e.get(), e.get(), Kit.skip()));
         }
         wrong("WHILE of none", Kit.t(40, 0));
