@@ -1,6 +1,6 @@
 import java.util.Arrays;
 
-/** Code of processes that read and drive signals, resumed step by step; the document's promises say all that it does. */
+/** Code of processes that read and drive signals, resumed step by step; the document says all that it does. */
 public final class StepCode {
     public static final int NONE = -1;
     public static final int LOGIC = 0, ROW = 1, NUMBER = 2;
@@ -887,7 +887,7 @@ public final class StepCode {
         int steps;
         int task = AT_BODY;
         int at = NONE;
-        private int waitNode = NONE;
+        int waitNode = NONE;
         long waitTime = NONE;
         private final long[] next, end;
 
@@ -1499,7 +1499,7 @@ public final class StepCode {
         }
     }
 
-    /** Does the steps of processes. What does a statement tells whether the process goes on. */
+    /** Does the steps of processes. Each statement's method tells whether the process goes on. */
     private static final class Runner {
         private final Things signals;
         private final Told told;
@@ -1568,8 +1568,7 @@ public final class StepCode {
             if (!unit.waitsForExpression()) {
                 return 1;
             }
-            int v = unit.waitNode;
-            if (!findNumber(unit, v, 1)) {
+            if (!findNumber(unit, unit.waitNode, 1)) {
                 return 2;
             }
             return finder.found().number != 0 ? 1 : 0;
@@ -1691,9 +1690,9 @@ public final class StepCode {
             if (unfit != 0) {
                 return unit.fail(unfit, v);
             }
-            if (targetClass == NUMBER) {
+            if (target != null && targetClass == NUMBER) {
                 target.now.beNumber(finder.found().number);
-            } else {
+            } else if (target != null) {
                 target.now.overlay(targetFirst, finder.found());
             }
             return unit.goBehind(v);
