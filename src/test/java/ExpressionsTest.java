@@ -24,64 +24,16 @@ public final class ExpressionsTest {
         kit.end();
     }
 
-    /** A process that sets a variable of a class to the expression, done once. */
-    private static StepCode tried(int is, int a, int b, Kit.Tree expression) {
-        StepCode x = new StepCode();
-        x.signal(1, 4, 0);
-        x.variable(is, a, b);
-        x.variable(1, 4, 0);
-        Kit.make(x, Kit.let(Kit.var(0), expression), Kit.pause());
-        for (int k = 0; k < 4; k++) {
-            x.put(0, false, k, 2 + k % 2);
-            x.set(0, 1, k, k);
-        }
-        x.resume(0, 10);
-        return x;
-    }
-
-    /** What an expression is: a NUMBER, a LOGIC in quotes, a row in brackets, or its fault and whose node has it. */
-    private static String found(Kit.Tree e) {
-        StepCode x = tried(2, -Kit.BIG, Kit.BIG, e);
-        if (x.about(0, 0) == StepCode.WAITS) {
-            return String.valueOf(x.variableOf(0, 0, 0));
-        }
-        int set = e.number + 1;
-        if (x.about(0, 2) != set) {
-            return "fault " + x.about(0, 1) + (x.about(0, 2) == e.number ? "" : " at " + x.about(0, 2));
-        }
-        x = tried(0, 0, 0, e);
-        if (x.about(0, 0) == StepCode.WAITS) {
-            return "'" + Kit.CODES.charAt(x.variableOf(0, 0, 0)) + "'";
-        }
-        for (int n = 1; n <= 64; n++) {
-            x = tried(1, n, 0, e);
-            if (x.about(0, 0) == StepCode.WAITS) {
-                return "[" + Kit.rowOf(x, 0, 0, n) + "]";
-            }
-        }
-        return "nothing";
-    }
-
     private static void is(String what, Kit.Tree expression, String want) {
-        kit.same(what, found(expression), want);
-    }
-
-    private static Kit.Tree of(String text) {
-        if (text.startsWith("'")) {
-            return Kit.logic(text.charAt(1));
-        }
-        if (text.startsWith("[")) {
-            return Kit.row(text.substring(1, text.length() - 1));
-        }
-        return Kit.num(Integer.parseInt(text));
+        kit.same(what, Tried.found(expression), want);
     }
 
     private static void two(int op, String a, String b, String want) {
-        is(a + " " + op + " " + b, Kit.two(op, of(a), of(b)), want);
+        is(a + " " + op + " " + b, Kit.two(op, Tried.of(a), Tried.of(b)), want);
     }
 
     private static void one(int op, String a, String want) {
-        is(op + " " + a, Kit.one(op, of(a)), want);
+        is(op + " " + a, Kit.one(op, Tried.of(a)), want);
     }
 
     /** Rows of answers: left code, then the answer for each right code, as the document's words give them. */
@@ -335,11 +287,11 @@ public final class ExpressionsTest {
     }
 
     private static Kit.Tree toNumber(String row) {
-        return Kit.t(84, 10, of(row));
+        return Kit.t(84, 10, Tried.of(row));
     }
 
     private static Kit.Tree toRow(String number, int n) {
-        return Kit.t(84, 11, of(number), Kit.num(n));
+        return Kit.t(84, 11, Tried.of(number), Kit.num(n));
     }
 
     private static void conversions() {
@@ -435,10 +387,10 @@ public final class ExpressionsTest {
     private static void leftToRight() {
         Kit.Tree byZero = Kit.two(16, Kit.num(1), Kit.num(0));
         Kit.Tree beyond = Kit.two(12, Kit.num(Kit.BIG), Kit.num(1));
-        kit.same("left one first", found(Kit.two(0, byZero, beyond)), "fault 10 at 3");
-        kit.same("left one first, turned", found(Kit.two(0, beyond, byZero)), "fault 9 at 3");
-        kit.same("inner one first", found(Kit.two(0, Kit.logic('1'), byZero)), "fault 10 at 4");
-        kit.same("an element's index first", found(Kit.elem(Kit.sig(0), Kit.one(1, Kit.logic('0')))),
+        kit.same("left one first", Tried.found(Kit.two(0, byZero, beyond)), "fault 10 at 3");
+        kit.same("left one first, turned", Tried.found(Kit.two(0, beyond, byZero)), "fault 9 at 3");
+        kit.same("inner one first", Tried.found(Kit.two(0, Kit.logic('1'), byZero)), "fault 10 at 4");
+        kit.same("an element's index first", Tried.found(Kit.elem(Kit.sig(0), Kit.one(1, Kit.logic('0')))),
                 "fault 3 at 3");
     }
 

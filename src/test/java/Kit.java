@@ -1,3 +1,6 @@
+import java.io.IOException;
+import java.nio.file.Files;
+import java.nio.file.Path;
 import java.util.ArrayList;
 import java.util.List;
 
@@ -9,12 +12,52 @@ final class Kit {
     static final Class<? extends RuntimeException> ARGUMENT = IllegalArgumentException.class;
     static final Class<? extends RuntimeException> STATE = IllegalStateException.class;
 
+    private static final Path DOCUMENT = Path.of("../shared/DOC.md");
+
     private final String title;
+    private final List<String> sentences = new ArrayList<>();
+    private String said = "";
+    private String document;
     private int wrong;
     private int looked;
+    private int lookedBefore;
 
     Kit(String title) {
         this.title = title;
+    }
+
+    /** From here on, answers belong to this sentence, which stands in the document word for word. */
+    void says(String where, String sentence) {
+        endOfSentence();
+        said = where + " says \"" + sentence + "\": ";
+        sentences.add(where);
+        same("the words are the document's", isQuoted(sentence) ? 1 : 0, 1);
+        lookedBefore = looked;
+    }
+
+    /** A sentence that is quoted but not looked at is no test. */
+    private void endOfSentence() {
+        if (!said.isEmpty()) {
+            same("something is looked at", looked > lookedBefore ? 1 : 0, 1);
+        }
+        said = "";
+    }
+
+    boolean hasSaid(String where) {
+        return sentences.contains(where);
+    }
+
+    /** Without the document the words can't be compared; what they ask for can. */
+    private boolean isQuoted(String sentence) {
+        if (document == null) {
+            try {
+                document = Files.readString(DOCUMENT);
+            } catch (IOException e) {
+                document = "";
+                System.out.println(title + ": " + DOCUMENT + " can't be read, its words are not compared");
+            }
+        }
+        return document.isEmpty() || document.contains(sentence);
     }
 
     interface Call {
@@ -25,7 +68,7 @@ final class Kit {
         looked++;
         if (got != want) {
             wrong++;
-            System.out.println(title + ": " + what + " answered " + got + ", due is " + want);
+            System.out.println(title + ": " + said + what + " answered " + got + ", due is " + want);
         }
     }
 
@@ -33,7 +76,7 @@ final class Kit {
         looked++;
         if (!got.equals(want)) {
             wrong++;
-            System.out.println(title + ": " + what + " answered " + got + ", due is " + want);
+            System.out.println(title + ": " + said + what + " answered " + got + ", due is " + want);
         }
     }
 
@@ -48,12 +91,14 @@ final class Kit {
         }
         if (!got.equals(want.getSimpleName())) {
             wrong++;
-            System.out.println(title + ": " + what + " threw " + got + ", due is " + want.getSimpleName());
+            System.out.println(title + ": " + said + what + " threw " + got + ", due is " + want.getSimpleName());
         }
     }
 
     void end() {
-        System.out.println(title + ": " + looked + " answers, " + wrong + " not as due");
+        endOfSentence();
+        String of = sentences.isEmpty() ? "" : " of " + sentences.size() + " sentences";
+        System.out.println(title + ": " + looked + " answers" + of + ", " + wrong + " not as due");
         if (wrong != 0 || looked == 0) {
             System.exit(1);
         }

@@ -1,6 +1,6 @@
 import java.util.Random;
 
-/** Calls with any arguments in any order, far beyond 512 of them: the same as the Model's, and never the machine's own. */
+/** Calls with any arguments in any order, far beyond 512 of them: as the Model's, and never the machine's own. */
 public final class WildCallsTest {
     private static final int OBJECTS = 400;
     private static final int CALLS = 1500;
