@@ -216,6 +216,26 @@ public final class EdgesOfExpressionsTest {
                 two(7, "" + a, "" + b, a == b ? "0" : "1");
             }
         }
+        sameWhereverFrom();
+    }
+
+    /** Values that were something else on the way are the same as those that are written down. */
+    private static void sameWhereverFrom() {
+        is(Kit.two(6, Kit.t(84, 10, Kit.row("H1H1")), Kit.num(15)), "1");
+        is(Kit.two(6, Kit.num(15), Kit.t(84, 10, Kit.row("HHHH"))), "1");
+        is(Kit.two(6, Kit.t(84, 11, Kit.num(-1), Kit.num(3)), Kit.row("111")), "1");
+        is(Kit.two(6, Kit.row("111"), Kit.t(84, 11, Kit.num(7), Kit.num(3))), "1");
+        is(Kit.two(6, Kit.elem(Kit.var(1), Kit.num(1)), Kit.logic('X')), "1");
+        is(Kit.two(6, Kit.part(Kit.var(1), 1, 2), Kit.row("0X")), "1");
+        is(Kit.two(6, Kit.two(6, Kit.row("-W"), Kit.row("-W")), Kit.num(1)), "1");
+        is(Kit.two(6, Kit.num(1), Kit.two(6, Kit.row("-W"), Kit.row("-W"))), "1");
+        is(Kit.two(6, Kit.num(0), Kit.two(7, Kit.logic('-'), Kit.logic('-'))), "1");
+        is(Kit.two(6, Kit.two(8, Kit.row("10"), Kit.row("HL")), Kit.num(0)), "1");
+        is(Kit.two(6, Kit.two(12, Kit.num(5), Kit.row("000")), Kit.row("101")), "1");
+        is(Kit.two(6, Kit.two(14, Kit.logic('W'), Kit.logic('-')), Kit.row("W-")), "1");
+        is(Kit.two(6, Kit.two(19, Kit.row("--"), Kit.num(2)), Kit.row("00")), "1");
+        is(Kit.two(6, Kit.one(0, Kit.row("-WZ")), Kit.row("XXX")), "1");
+        is(Kit.two(7, Kit.one(0, Kit.row("LH")), Kit.row("10")), "0");
     }
 
     private static void order() {
@@ -417,12 +437,13 @@ public final class EdgesOfExpressionsTest {
             for (char last : Kit.CODES.toCharArray()) {
                 StepCode x = new StepCode();
                 x.signal(0, 0, 0);
-                Kit.make(x, Kit.report(Kit.t(84, 8, Kit.sig(0))), Kit.report(Kit.t(84, 9, Kit.sig(0))), Kit.pause());
-                x.put(0, false, 0, Kit.CODES.indexOf(now));
-                x.put(0, true, 0, Kit.CODES.indexOf(last));
+                x.signal(0, 0, 0);
+                Kit.make(x, Kit.report(Kit.t(84, 8, Kit.sig(1))), Kit.report(Kit.t(84, 9, Kit.sig(1))), Kit.pause());
+                x.put(1, false, 0, Kit.CODES.indexOf(now));
+                x.put(1, true, 0, Kit.CODES.indexOf(last));
                 for (int marks = 0; marks < 4; marks++) {
                     boolean event = marks % 2 == 1;
-                    x.mark(0, event, marks >= 2);
+                    x.mark(1, event, marks >= 2);
                     x.resume(0, 9);
                     boolean up = event && isOne(now) && isZero(last);
                     boolean down = event && isZero(now) && isOne(last);
@@ -564,12 +585,43 @@ public final class EdgesOfExpressionsTest {
             Kit.Tree alone = fault9();
             faultAt(Kit.two(op, alone, Kit.logic('1')), 9, alone);
         }
+        secondOperands();
         Kit.Tree index = fault10();
         faultAt(Kit.elem(Kit.var(1), index), 10, index);
         Kit.Tree under = fault9();
         faultAt(Kit.one(0, Kit.one(1, Kit.t(84, 11, under, Kit.num(4)))), 9, under);
         Kit.Tree row = Kit.two(14, Kit.row("1".repeat(64)), Kit.logic('0'));
         faultAt(Kit.two(16, Kit.t(84, 10, row), Kit.num(0)), 4, row);
+    }
+
+    /** Every kind of expression behind another one that is found before it and used behind it. */
+    private static void secondOperands() {
+        is(Kit.two(13, Kit.num(100), Kit.one(1, Kit.num(5))), "105");
+        is(Kit.two(13, Kit.num(100), Kit.one(0, Kit.num(0))), "99");
+        is(Kit.two(13, Kit.num(100), Kit.two(13, Kit.num(10), Kit.num(1))), "91");
+        is(Kit.two(13, Kit.num(100), Kit.t(84, 10, Kit.row("11"))), "97");
+        is(Kit.two(14, Kit.row("X-"), Kit.t(84, 11, Kit.num(5), Kit.num(3))), "[X-101]");
+        is(Kit.two(14, Kit.row("X-"), Kit.elem(Kit.var(1), Kit.num(3))), "[X-1]");
+        is(Kit.two(14, Kit.row("X-"), Kit.part(Kit.var(1), 1, 3)), "[X-10X]");
+        is(Kit.two(14, Kit.row("X-"), Kit.t(85, 17, Kit.sig(0))), "[X-UUUU]");
+        is(Kit.two(14, Kit.row("X-"), Kit.sig(0)), "[X-1010]");
+        is(Kit.two(14, Kit.row("X-"), Kit.var(1)), "[X-10XU]");
+        is(Kit.two(13, Kit.num(100), Kit.t(85, 15, Kit.sig(0))), "100");
+        is(Kit.two(13, Kit.num(100), Kit.t(85, 16, Kit.sig(0))), "100");
+        is(Kit.two(14, Kit.elem(Kit.var(1), Kit.one(3, Kit.num(-2))), Kit.elem(Kit.sig(0), Kit.one(2, Kit.num(1)))),
+                "[01]");
+        StepCode x = new StepCode();
+        x.signal(2, 0, 9);
+        x.signal(0, 0, 0);
+        x.mark(1, true, true);
+        x.put(1, false, 0, 3);
+        x.put(1, true, 0, 2);
+        Kit.make(x, Kit.report(Kit.two(13, Kit.num(100), Kit.t(84, 8, Kit.sig(1)))),
+                Kit.report(Kit.two(13, Kit.num(100), Kit.t(84, 9, Kit.sig(1)))),
+                Kit.report(Kit.two(13, Kit.num(100), Kit.t(85, 15, Kit.sig(1)))),
+                Kit.report(Kit.two(13, Kit.num(100), Kit.t(85, 16, Kit.sig(1)))), Kit.pause());
+        x.resume(0, 9);
+        kit.same("of signals", Kit.reports(x), "99 100 99 99");
     }
 
     private static void faultAt(Kit.Tree expression, int fault, Kit.Tree at) {

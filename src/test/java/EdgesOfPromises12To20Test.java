@@ -21,6 +21,7 @@ public final class EdgesOfPromises12To20Test {
         until();
         acts();
         act();
+        actInTurn();
         actNothingElse();
         values();
         delays();
@@ -363,6 +364,29 @@ public final class EdgesOfPromises12To20Test {
         for (int i = 0; i < more.length; i++) {
             for (int what = 0; what <= 5; what++) {
                 kit.same("act " + i + ", what = " + what, y.act(i, what), more[i][what]);
+            }
+        }
+    }
+
+    /** Act 0 is a report in every second resumption, and an ASSIGN in the others: nothing of the other one stays. */
+    private static void actInTurn() {
+        StepCode x = with(Kit.assign(2, Kit.part(Kit.sig(1), 1, 2), Kit.time(1, Kit.num(5)),
+                Kit.wave(Kit.row("01"), 6)), Kit.pause(), Kit.report(Kit.num(8)),
+                Kit.assign(0, Kit.sig(0), Kit.wave(Kit.logic('1'))), Kit.pause());
+        int[][] due = {{0, 1, 1, 2, 2, 1}, {1, 8, 0, 0, 0, 0}};
+        for (int i = 0; i < 6; i++) {
+            x.resume(0, 9);
+            for (int what = 0; what <= 5; what++) {
+                kit.same("in turn, what = " + what, x.act(0, what), due[i % 2][what]);
+            }
+            if (i % 2 == 0) {
+                kit.same("its times", x.delay(0, 0) * 10 + x.delay(0, StepCode.NONE), 65);
+                kit.same("its value", x.value(0, 0, 1) * 10 + x.value(0, 0, 0), 23);
+            } else {
+                kit.fails("no value", Kit.INDEX, () -> x.value(0, 0, 0));
+                kit.fails("no limit", Kit.INDEX, () -> x.delay(0, StepCode.NONE));
+                kit.same("the value behind it", x.value(1, 0, 0), 3);
+                kit.same("and its limit", x.delay(1, StepCode.NONE), 0);
             }
         }
     }

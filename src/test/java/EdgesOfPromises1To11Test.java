@@ -29,6 +29,7 @@ public final class EdgesOfPromises1To11Test {
         marks();
         gets();
         sets();
+        setsAgain();
         variablesOf();
         for (int promise = 1; promise <= 11; promise++) {
             kit.same("promise " + promise + " is looked at", kit.hasSaid("Promise " + promise) ? 1 : 0, 1);
@@ -395,6 +396,14 @@ public final class EdgesOfPromises1To11Test {
         x.resume(0, 9);
         kit.same("both are the same", Kit.reports(x), "-5 0 1");
         kit.same("the ends of the row", x.get(1, 63) * 100 + x.get(1, 62) * 10 + x.get(1, 0), 801);
+        for (int from = 0; from <= 8; from++) {
+            for (int to = 0; to <= 8; to++) {
+                x.put(1, false, 32, from);
+                x.put(1, false, 32, to);
+                kit.same("from " + from + " to " + to, x.get(1, 32), to);
+            }
+        }
+        kit.same("its neighbours stay", x.get(1, 33) + x.get(1, 31), 0);
         int[][] none = {{-1, 0}, {3, 0}, {BIG, 0}, {BEYOND, 0}, {0, 1}, {0, -1}, {1, 64}, {1, -1}, {1, BIG},
             {1, BEYOND}, {2, 1}, {2, -1}};
         for (int[] n : none) {
@@ -507,6 +516,19 @@ public final class EdgesOfPromises1To11Test {
         x.resume(1, 1);
         x.set(1, 0, 0, 2);
         kit.same("also of one that has stopped", x.variableOf(1, 0, 0), 2);
+    }
+
+    /** Whatever it was before. */
+    private static void setsAgain() {
+        StepCode x = threeVariables();
+        for (int from = 0; from <= 8; from++) {
+            for (int to = 0; to <= 8; to++) {
+                x.set(0, 1, 62, from);
+                x.set(0, 1, 62, to);
+                kit.same("from " + from + " to " + to, x.variableOf(0, 1, 62), to);
+            }
+        }
+        kit.same("its neighbours stay", x.variableOf(0, 1, 63) + x.variableOf(0, 1, 61), 0);
     }
 
     private static void variablesOf() {

@@ -365,11 +365,39 @@ public final class EdgesOfStepsTest {
         }
         for (int first = 0; first < 4; first++) {
             for (int many = 1; first + many <= 4; many++) {
-                StepCode x = run(3, Kit.let(Kit.part(Kit.var(1), first, many), Kit.row("01LH".substring(4 - many))),
-                        Kit.pause());
-                kit.same("part " + first + ", " + many, Kit.rowOf(x, 0, 1, 4), "U".repeat(4 - first - many)
-                        + "01LH".substring(4 - many) + "U".repeat(first));
+                keptPart(first, many, "----", "UUUU");
+                keptPart(first, many, "UUUU", "----");
+                keptPart(first, many, "HL10", "ZWX-");
             }
+        }
+        keptPart(0, 64, "01XZWLH-".repeat(8), "H".repeat(64));
+        keptPart(0, 64, "H-".repeat(32), "-H".repeat(32));
+        keptPart(63, 1, "-".repeat(64), "U".repeat(64));
+        keptPart(1, 63, "H".repeat(64), "-".repeat(64));
+    }
+
+    /** A part of a row becomes what stands there in another row; the others stay. */
+    private static void keptPart(int first, int many, String to, String was) {
+        int n = was.length();
+        StepCode x = new StepCode();
+        x.variable(1, n, 0);
+        String part = to.substring(n - first - many, n - first);
+        Kit.make(x, Kit.let(Kit.part(Kit.var(0), first, many), Kit.row(part)), Kit.pause());
+        for (int k = 0; k < n; k++) {
+            x.set(0, 0, k, Kit.CODES.indexOf(was.charAt(n - 1 - k)));
+        }
+        x.resume(0, 9);
+        kit.same("part " + first + ", " + many, Kit.rowOf(x, 0, 0, n),
+                was.substring(0, n - first - many) + part + was.substring(n - first));
+        if (many == 1) {
+            StepCode y = new StepCode();
+            y.variable(1, n, 0);
+            Kit.make(y, Kit.let(Kit.elem(Kit.var(0), Kit.num(first)), Kit.logic(part.charAt(0))), Kit.pause());
+            for (int k = 0; k < n; k++) {
+                y.set(0, 0, k, Kit.CODES.indexOf(was.charAt(n - 1 - k)));
+            }
+            y.resume(0, 9);
+            kit.same("element " + first, Kit.rowOf(y, 0, 0, n), Kit.rowOf(x, 0, 0, n));
         }
     }
 
@@ -657,6 +685,12 @@ public final class EdgesOfStepsTest {
         kit.same("an ASSERT that tells nothing is none", Kit.fate(y, 0), "waits");
         y.resume(0, 10000);
         kit.same("each resumption has its own", Kit.fate(y, 0) + " " + y.acts(), "waits 200");
+        StepCode z = often(31, waves(16));
+        for (int i = 0; i < 5; i++) {
+            kit.same("each has its own values", z.resume(0, 10000), StepCode.WAITS);
+            kit.same("acts", z.acts(), 31);
+            kit.same("the last value", z.value(30, 15, 0) * 100 + z.delay(30, 15), 515);
+        }
     }
 
     private static void mostValues() {

@@ -303,6 +303,19 @@ public final class EdgesOfTreesTest {
         places(82, 0, "R", "e");
         justSoMany(() -> Kit.elem(Kit.sig(1), Kit.num(0)));
         right("one that is not there is a fault, not WRONG", Kit.elem(Kit.sig(1), Kit.num(4)));
+        for (char c : Kit.CODES.toCharArray()) {
+            for (int k : new int[] {0, 1, 62, 63}) {
+                StepCode x = new StepCode();
+                x.signal(1, 64, 0);
+                x.signal(0, 0, 0);
+                Kit.make(x, Kit.report(Kit.two(6, Kit.elem(Kit.sig(0), Kit.num(k)), Kit.sig(1))),
+                        Kit.report(Kit.two(6, Kit.part(Kit.sig(0), k, 1), Kit.row("" + c))), Kit.pause());
+                x.put(0, false, k, Kit.CODES.indexOf(c));
+                x.put(1, false, 0, Kit.CODES.indexOf(c));
+                x.resume(0, 9);
+                kit.same(c + " at " + k, Kit.reports(x), "1 1");
+            }
+        }
         kit.same("the rightmost", Tried.found(Kit.elem(Kit.var(1), Kit.num(0))), "'U'");
         kit.same("the leftmost", Tried.found(Kit.elem(Kit.var(1), Kit.num(3))), "'1'");
     }
@@ -507,6 +520,15 @@ public final class EdgesOfTreesTest {
         for (Sample sample : samples()) {
             wrong("of one", Kit.choose(sample.tree.get()));
         }
+        for (int first = 0; first < 4; first++) {
+            StepCode x = new StepCode();
+            Kit.make(x, Kit.choose(Kit.num(first == 0 ? -1 : 0), Kit.list(Kit.report(Kit.num(10))),
+                    Kit.num(first == 1 ? 1 : 0), Kit.list(Kit.report(Kit.num(20))), Kit.num(first <= 2 ? 7 : 0),
+                    Kit.list(Kit.report(Kit.num(30))), Kit.list(Kit.report(Kit.num(40)))), Kit.pause());
+            x.resume(0, 9);
+            kit.same("the first that is true, or the last", Kit.reports(x), "" + (10 * first + 10));
+            kit.same("steps", x.about(0, 5), 4);
+        }
         for (int many = 1; many <= 60; many++) {
             Kit.Tree tree = Kit.choose();
             for (int i = 0; i < many; i++) {
@@ -656,6 +678,13 @@ public final class EdgesOfTreesTest {
         kit.same("100 in the body", Kit.make(x, Kit.report(fits), Kit.pause()), 0);
         x.resume(0, 9);
         kit.same("which is found", Kit.reports(x), "97");
+        Kit.Tree toTheRight = Kit.num(0);
+        for (int i = 1; i <= 97; i++) {
+            toTheRight = Kit.two(13, Kit.num(i), toTheRight);
+        }
+        kit.same("100, leaning to the right", Kit.make(x, Kit.report(toTheRight), Kit.pause()), 1);
+        x.resume(1, 9);
+        kit.same("which is found", Kit.reports(x), "49");
         StepCode y = new StepCode();
         Kit.Tree body = Kit.list(Kit.report(deep(98)));
         body.plant(y);
