@@ -24,6 +24,11 @@ final class Kit {
 
     Kit(String title) {
         this.title = title;
+        // A call that throws where none is due ends the test; which sentence it was for is told even so.
+        Thread.currentThread().setUncaughtExceptionHandler((thread, thrown) -> {
+            System.out.println(title + ": " + said + "threw " + thrown);
+            thrown.printStackTrace();
+        });
     }
 
     /** From here on, answers belong to this sentence, which stands in the document word for word. */
