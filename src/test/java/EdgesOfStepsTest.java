@@ -459,6 +459,9 @@ public final class EdgesOfStepsTest {
         }
         told("L is not ZERO", "2", 2, Kit.cases(Kit.row("L1"), Kit.choice(Kit.list(Kit.row("01"), Kit.row("LH")),
                 Kit.report(Kit.num(1))), Kit.choice(Kit.list(Kit.row("L1")), Kit.report(Kit.num(2)))));
+        told("of what is in the expression nothing counts", "2", 2, Kit.cases(Kit.two(12, Kit.one(2, Kit.num(7)),
+                Kit.num(0)), Kit.choice(Kit.list(Kit.num(0)), Kit.report(Kit.num(1))),
+                Kit.choice(Kit.list(Kit.num(7)), Kit.report(Kit.num(2)))));
         told("OTHERS alone", "1", 2, Kit.cases(Kit.row("L1"), Kit.choice(Kit.list(Kit.others()),
                 Kit.report(Kit.num(1)))));
         told("the greatest", "1", 2, Kit.cases(Kit.num(BIG), Kit.choice(Kit.list(Kit.num(-BIG), Kit.num(BIG)),
