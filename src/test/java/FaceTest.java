@@ -1,4 +1,3 @@
-import java.lang.reflect.Constructor;
 import java.lang.reflect.Field;
 import java.lang.reflect.Method;
 import java.lang.reflect.Modifier;
@@ -10,62 +9,52 @@ import java.util.TreeSet;
 /** The public face is the document's and nothing else; promise 1. */
 public final class FaceTest {
     private static final String[] METHODS = {
-        "int about(int,int)", "int act(int,int)", "int acts()", "int add(int,int,int)", "int get(int,int)",
-        "int holds(int)", "int process()", "int processes()", "int resume(int,int)", "int signal(int,int,int)",
-        "int value(int,int,int)", "int variable(int,int,int)", "int variableOf(int,int,int)", "int waits(int,int)",
-        "long delay(int,int)", "long until(int)", "void mark(int,boolean,boolean)",
-        "void put(int,boolean,int,int)", "void set(int,int,int,int)"};
+        "public int signal(int is, int a, int b) throws IllegalArgumentException, IllegalStateException;",
+        "public int variable(int is, int a, int b) throws IllegalArgumentException, IllegalStateException;",
+        "public int add(int kind, int value, int n) throws IllegalArgumentException, IllegalStateException;",
+        "public int process() throws IllegalStateException;",
+        "public int processes();",
+        "public void put(int signal, boolean last, int k, int value) throws IndexOutOfBoundsException, "
+            + "IllegalArgumentException;",
+        "public void mark(int signal, boolean event, boolean active) throws IndexOutOfBoundsException;",
+        "public int get(int signal, int k) throws IndexOutOfBoundsException;",
+        "public void set(int process, int variable, int k, int value) throws IndexOutOfBoundsException, "
+            + "IllegalArgumentException;",
+        "public int variableOf(int process, int variable, int k) throws IndexOutOfBoundsException;",
+        "public int resume(int process, int steps) throws IndexOutOfBoundsException, IllegalArgumentException, "
+            + "IllegalStateException;",
+        "public int holds(int process) throws IndexOutOfBoundsException, IllegalStateException;",
+        "public int about(int process, int what) throws IndexOutOfBoundsException, IllegalArgumentException;",
+        "public int waits(int process, int i) throws IndexOutOfBoundsException;",
+        "public long until(int process) throws IndexOutOfBoundsException;",
+        "public int acts();",
+        "public int act(int i, int what) throws IndexOutOfBoundsException, IllegalArgumentException;",
+        "public int value(int i, int w, int k) throws IndexOutOfBoundsException;",
+        "public long delay(int i, int w) throws IndexOutOfBoundsException;"};
 
-    public static void main(String[] args) {
-        Kit kit = new Kit("FaceTest");
-        constants(kit);
-        members(kit);
-        names(kit);
-        newObject(kit);
+    private static Kit kit;
+
+    public static void main(String[] args) throws ReflectiveOperationException {
+        kit = new Kit("FaceTest");
+        classesInside();
+        names();
+        theClass();
+        constants();
+        methods();
+        newObject();
         kit.end();
     }
 
-    private static void constants(Kit kit) {
-        kit.same("NONE", StepCode.NONE, -1);
-        kit.same("LOGIC", StepCode.LOGIC, 0);
-        kit.same("ROW", StepCode.ROW, 1);
-        kit.same("NUMBER", StepCode.NUMBER, 2);
-        kit.same("NEW", StepCode.NEW, 0);
-        kit.same("WAITS", StepCode.WAITS, 1);
-        kit.same("STOPPED", StepCode.STOPPED, 2);
-        kit.same("FAULTED", StepCode.FAULTED, 3);
-    }
-
-    private static void members(Kit kit) {
-        int modifiers = StepCode.class.getModifiers();
-        kit.same("public and final", Modifier.isPublic(modifiers) && Modifier.isFinal(modifiers) ? 1 : 0, 1);
-        Set<String> methods = new TreeSet<>();
-        for (Method method : StepCode.class.getDeclaredMethods()) {
-            if (!Modifier.isPrivate(method.getModifiers())) {
-                String types = Arrays.toString(method.getParameterTypes()).replace(" ", "");
-                methods.add(method.getReturnType() + " " + method.getName() + "("
-                        + types.substring(1, types.length() - 1) + ")");
-            }
-        }
-        kit.same("methods", methods.toString(), new TreeSet<>(Arrays.asList(METHODS)).toString());
-        Set<String> fields = new TreeSet<>();
-        for (Field field : StepCode.class.getDeclaredFields()) {
-            if (!Modifier.isPrivate(field.getModifiers())) {
-                fields.add(field.getName());
-            }
-        }
-        kit.same("fields", fields.toString(), "[FAULTED, LOGIC, NEW, NONE, NUMBER, ROW, STOPPED, WAITS]");
-        Constructor<?>[] made = StepCode.class.getDeclaredConstructors();
-        kit.same("constructors", made.length, 1);
-        kit.same("constructor's parameters", made[0].getParameterCount(), 0);
+    /** LANGUAGE.md, rule 1: the classes inside are private or package-visible, and static. */
+    private static void classesInside() {
         for (Class<?> inside : StepCode.class.getDeclaredClasses()) {
             kit.same(inside.getName() + " is static", Modifier.isStatic(inside.getModifiers()) ? 1 : 0, 1);
             kit.same(inside.getName() + " is public", Modifier.isPublic(inside.getModifiers()) ? 1 : 0, 0);
         }
     }
 
-    /** No method inside bears the name of a public one. */
-    private static void names(Kit kit) {
+    /** LANGUAGE.md, rule 1: no method inside bears the name of a public one. */
+    private static void names() {
         Set<String> face = new HashSet<>();
         for (Method method : StepCode.class.getMethods()) {
             if (method.getDeclaringClass() == StepCode.class) {
@@ -80,7 +69,73 @@ public final class FaceTest {
         }
     }
 
-    private static void newObject(Kit kit) {
+    private static void theClass() {
+        kit.says("The public face", "public final class StepCode {");
+        int modifiers = StepCode.class.getModifiers();
+        kit.same("public", Modifier.isPublic(modifiers) ? 1 : 0, 1);
+        kit.same("final", Modifier.isFinal(modifiers) ? 1 : 0, 1);
+        kit.same("package", StepCode.class.getPackageName(), "");
+        kit.says("The public face", "public StepCode();");
+        kit.same("constructors", Arrays.toString(StepCode.class.getDeclaredConstructors()), "[public StepCode()]");
+    }
+
+    private static void constants() throws ReflectiveOperationException {
+        String[] lines = {"NONE = -1", "LOGIC = 0, ROW = 1, NUMBER = 2",
+            "NEW = 0, WAITS = 1, STOPPED = 2, FAULTED = 3"};
+        Set<String> due = new TreeSet<>();
+        for (String line : lines) {
+            kit.says("The public face", "public static final int " + line + ";");
+            for (String constant : line.split(", ")) {
+                String name = constant.split(" = ")[0];
+                Field field = StepCode.class.getField(name);
+                kit.same(name, Modifier.toString(field.getModifiers()) + " " + field.getType(),
+                        "public static final int");
+                kit.same(name, name + " = " + field.getInt(null), constant);
+                due.add(name);
+            }
+        }
+        Set<String> fields = new TreeSet<>();
+        for (Field field : StepCode.class.getDeclaredFields()) {
+            if (!Modifier.isPrivate(field.getModifiers())) {
+                fields.add(field.getName());
+            }
+        }
+        kit.same("no others", fields.toString(), due.toString());
+    }
+
+    private static void methods() {
+        Set<String> seen = new TreeSet<>();
+        for (Method method : StepCode.class.getDeclaredMethods()) {
+            if (!Modifier.isPrivate(method.getModifiers())) {
+                seen.add(declared(method));
+            }
+        }
+        for (String line : METHODS) {
+            kit.says("The public face", line);
+            // Parameters' names are not kept in the compiled class.
+            String due = line.replaceAll("(int|boolean) \\w+(?=[,)])", "$1");
+            kit.same("it is there", seen.contains(due) ? due : seen.toString(), due);
+        }
+        kit.same("no others", seen.size(), METHODS.length);
+    }
+
+    private static String declared(Method method) {
+        String thrown = simpleNames(method.getExceptionTypes());
+        return Modifier.toString(method.getModifiers()) + " " + method.getReturnType().getSimpleName() + " "
+                + method.getName() + "(" + simpleNames(method.getParameterTypes()) + ")"
+                + (thrown.isEmpty() ? "" : " throws " + thrown) + ";";
+    }
+
+    private static String simpleNames(Class<?>[] classes) {
+        StringBuilder text = new StringBuilder();
+        for (Class<?> one : classes) {
+            text.append(text.length() == 0 ? "" : ", ").append(one.getSimpleName());
+        }
+        return text.toString();
+    }
+
+    private static void newObject() {
+        kit.says("Promise 1", "No signals, no processes, no nodes.");
         StepCode x = new StepCode();
         kit.same("processes", x.processes(), 0);
         kit.same("acts", x.acts(), 0);
